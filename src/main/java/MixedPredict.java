@@ -236,10 +236,8 @@ public final class MixedPredict {
         }
     }
 
+    // What lacks of the head reads as 0, and then the tile's end lies behind the last byte.
     private boolean isGood(int tile, int from) {
-        if (from + HEAD > unread.count()) {
-            return false;
-        }
         int kind = unread.get(from);
         int follow = following(from);
         int to = from + HEAD + follow;
@@ -634,7 +632,7 @@ public final class MixedPredict {
         }
     }
 
-    /** Reads the bits from bytes of a row, and 0 behind them. */
+    /** Reads the bits out of bytes, and 0 behind them: for each byte that leaves the interval one is taken. */
     private static final class Reader extends Interval {
         private final Bytes in;
         private int next;

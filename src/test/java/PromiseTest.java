@@ -25,6 +25,7 @@ public final class PromiseTest {
         predictedRefuses();
         encodeAsItIs();
         encodeByInterval();
+        encodeEndsAboveLow();
         encodeTiles();
         encodeChangesNoSample();
         byteAt();
@@ -271,6 +272,20 @@ public final class PromiseTest {
         MixedPredict y = new MixedPredict(2, 2, 3, 1);
         y.paint(1, 5);
         due("6 three bytes for four", y.encode(), 7);
+    }
+
+    /** LOW ends as b1670001: with a byte less than 65535 the bytes would tell a number below it. */
+    private static void encodeEndsAboveLow() {
+        MixedPredict x = new MixedPredict(8, 1, 5, 1);
+        x.paint(7, 1);
+        x.put(3, 0, 0, 16);
+        due("6 the end", x.encode(), 10);
+        due("6 the end, highest byte", x.byteAt(8), 0xb1);
+        due("6 the end, next byte", x.byteAt(9), 0x68);
+        x.pass();
+        x.paint(0, 0);
+        due("6 the end is read", x.decode(), 8);
+        due("6 the end is read so", x.at(7, 0, 0), 14);
     }
 
     private static void encodeTiles() {

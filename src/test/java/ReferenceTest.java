@@ -86,7 +86,8 @@ public final class ReferenceTest {
             Object a = answer(got);
             Object b = answer(want);
             if (!b.equals(a) && wrong++ < MOST_WRONG) {
-                System.out.println("run " + number + ", call " + calls + ": " + call + " answered " + a + ", due is " + b);
+                System.out.println("run " + number + ", call " + calls + ": " + call
+                        + " answered " + a + ", due is " + b);
             }
             return true;
         }
@@ -125,7 +126,7 @@ public final class ReferenceTest {
             }
         }
 
-        /** Outside the calls that are counted: all bytes on objects that nobody asks again. */
+        /** All bytes, of another object with the same samples: its calls do not count to those of this run. */
         private void allBytes() {
             MixedPredict copy = new MixedPredict(y.width, y.height, y.bits, y.channels);
             if (y.width * y.height * y.channels + y.coded.size() + 1 > MOST_CALLS) {
@@ -138,7 +139,7 @@ public final class ReferenceTest {
             for (int i = 0; i < y.coded.size(); i++) {
                 if (copy.byteAt(i) != y.coded.get(i)) {
                     wrong++;
-                    System.out.println("run " + number + ": byte " + i + " is " + copy.byteAt(i) + ", due is " + y.coded.get(i));
+                    System.out.println("run " + number + ": byte " + i + " is another one");
                     return;
                 }
             }
@@ -285,7 +286,8 @@ public final class ReferenceTest {
             int tile = odd(y.tiles());
             put(column, row, channel, odd(1 << y.bits));
             same("at odd", () -> x.at(column, row, channel), () -> y.at(column, row, channel));
-            same("predicted odd", () -> x.predicted(column, row, channel, way), () -> y.predicted(column, row, channel, way));
+            same("predicted odd",
+                    () -> x.predicted(column, row, channel, way), () -> y.predicted(column, row, channel, way));
             byteAt(odd(y.coded.size()));
             same("plain odd", () -> x.plain(tile), () -> y.plain(tile));
             same("weight odd", () -> x.weight(way), () -> y.weight(way));
@@ -681,7 +683,8 @@ public final class ReferenceTest {
                     narrow(split, bit);
                     while (sameHighest()) {
                         shift();
-                        value = value.shiftLeft(8).mod(TOP).add(BigInteger.valueOf(next < in.size() ? in.get(next) : 0));
+                        int come = next < in.size() ? in.get(next) : 0;
+                        value = value.shiftLeft(8).mod(TOP).add(BigInteger.valueOf(come));
                         next++;
                     }
                     learnBit(channel, texture, past, node, bit);
