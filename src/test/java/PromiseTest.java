@@ -1,18 +1,5 @@
-import java.util.Random;
-
 /** For each promise of the document: ordinary inputs, the edges that it names, and wrong inputs. */
-public final class PromiseTest {
-    private interface Call {
-        Object answer();
-    }
-
-    private static final String INDEX = "throws.IndexOutOfBoundsException";
-    private static final String ARGUMENT = "throws.IllegalArgumentException";
-    private static final String UNSUPPORTED = "throws.UnsupportedOperationException";
-    private static final int[] WILD = {Integer.MIN_VALUE, -1, Integer.MAX_VALUE};
-
-    private static int wrong = 0;
-
+public final class PromiseTest extends Check {
     public static void main(String[] args) {
         aNewObject();
         sizesCountAsTheNearest();
@@ -44,10 +31,7 @@ public final class PromiseTest {
         decodeKeepsWhatEncodeLearnt();
         told();
         clear();
-        System.out.println(wrong == 0 ? "PromiseTest: all as due" : "PromiseTest: " + wrong + " not as due");
-        if (wrong != 0) {
-            System.exit(1);
-        }
+        end("PromiseTest");
     }
 
     // Promise 1
@@ -230,12 +214,6 @@ public final class PromiseTest {
         }
     }
 
-    private static void ways(String what, MixedPredict x, int column, int row, int channel, int... want) {
-        for (int way = 0; way < 9; way++) {
-            due(what + ", way " + way, x.predicted(column, row, channel, way), want[way]);
-        }
-    }
-
     // Promise 6
     private static void encodeAsItIs() {
         MixedPredict x = new MixedPredict(1, 1, 1, 1);
@@ -302,17 +280,6 @@ public final class PromiseTest {
         due("6 the fourth tile's sum", x.byteAt(first + 27), 165 ^ 1 ^ 7);
         MixedPredict most = noise();
         due("6 most", most.encode(), 784);
-    }
-
-    /** All its tiles are told as they are. */
-    private static MixedPredict noise() {
-        MixedPredict x = new MixedPredict(16, 16, 8, 3);
-        Random random = new Random(7);
-        x.paint(0, 89);
-        for (int i = 0; i < 400; i++) {
-            x.put(random.nextInt(16), random.nextInt(16), random.nextInt(3), random.nextInt(256));
-        }
-        return x;
     }
 
     private static void encodeChangesNoSample() {
@@ -419,12 +386,6 @@ public final class PromiseTest {
         due("9 most", most, 1024);
     }
 
-    private static void weights(String what, MixedPredict x, int... want) {
-        for (int way = 0; way < 9; way++) {
-            due(what + ", way " + way, x.weight(way), want[way]);
-        }
-    }
-
     // Promise 10
     private static void chance() {
         MixedPredict x = new MixedPredict(2, 1, 2, 2);
@@ -509,26 +470,12 @@ public final class PromiseTest {
             due("12 wild", answer(() -> x.feed(v)), ARGUMENT);
         }
         due("12 unchanged", x.told(2), 2);
-        MixedPredict full = full();
+        MixedPredict full = full(0);
         due("12 no more than 4000", answer(() -> full.feed(0)), UNSUPPORTED);
         due("12 the byte comes first", answer(() -> full.feed(256)), ARGUMENT);
         due("12 still 4000", full.told(2), 4000);
         full.decode();
         due("12 room again", full.feed(1), 1);
-    }
-
-    /** With 4000 bytes to be read, behind five times 784. */
-    private static MixedPredict full() {
-        MixedPredict x = noise();
-        due("13 bytes at once", x.encode(), 784);
-        for (int i = 1; i <= 5; i++) {
-            due("13 behind one another", x.pass(), i * 784);
-        }
-        for (int i = 3920; i < 3999; i++) {
-            x.feed(0);
-        }
-        due("12 the 4000th", x.feed(0), 4000);
-        return x;
     }
 
     // Promise 13
@@ -545,7 +492,7 @@ public final class PromiseTest {
         due("13 the tile's last", x.poke(5, 0), 44);
         due("13 as often as one likes", x.pass(), 11);
         due("13 what was coded stays", x.told(1), 5);
-        MixedPredict full = full();
+        MixedPredict full = full(0);
         due("13 above 4000", answer(() -> full.pass()), UNSUPPORTED);
         due("13 unchanged", full.told(2), 4000);
         full.clear();
@@ -780,34 +727,6 @@ public final class PromiseTest {
         due("17 as at first", x.encode(), fresh.encode());
         for (int i = 0; i < fresh.told(1); i++) {
             due("17 byte", x.byteAt(i), fresh.byteAt(i));
-        }
-    }
-
-    private static void feed(MixedPredict x, int... bytes) {
-        for (int b : bytes) {
-            x.feed(b);
-        }
-    }
-
-    private static void bytes(String what, MixedPredict x, int... want) {
-        due(what + ", how many", x.told(1), want.length);
-        for (int i = 0; i < want.length && i < x.told(1); i++) {
-            due(what + ", byte " + i, x.byteAt(i), want[i]);
-        }
-    }
-
-    private static Object answer(Call call) {
-        try {
-            return call.answer();
-        } catch (RuntimeException e) {
-            return "throws." + e.getClass().getSimpleName();
-        }
-    }
-
-    private static void due(String what, Object got, Object want) {
-        if (!want.equals(got)) {
-            wrong++;
-            System.out.println(what + ": answered " + got + ", due is " + want);
         }
     }
 }

@@ -7,7 +7,7 @@ import java.util.Map;
 import java.util.Random;
 
 /** Runs of calls by chance, the same ones each time, on MixedPredict and on a second telling of the document. */
-public final class ReferenceTest {
+public final class ReferenceTest extends Check {
     private static final int MOST_CALLS = 512;
     private static final int RUNS = 1500;
     private static final int MOST_WRONG = 20;
@@ -21,18 +21,6 @@ public final class ReferenceTest {
         System.out.println(wrong == 0 ? "ReferenceTest: all as due" : "ReferenceTest: " + wrong + " not as due");
         if (wrong != 0) {
             System.exit(1);
-        }
-    }
-
-    private interface Call {
-        Object answer();
-    }
-
-    private static Object answer(Call call) {
-        try {
-            return call.answer();
-        } catch (RuntimeException e) {
-            return "throws." + e.getClass().getSimpleName();
         }
     }
 
