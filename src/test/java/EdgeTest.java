@@ -89,16 +89,16 @@ public final class EdgeTest extends Check {
         bad("256 told by the high byte", 1, 0, 1, 164);
         bad("all that can be told", 1, 255, 255, 165);
         MixedPredict x = new MixedPredict(1, 1, 8, 1);
-        feed(x, 1, 1, 1, 165);
-        for (int i = 0; i < 257; i++) {
+        feed(x, 1, 0, 1, 164);
+        for (int i = 0; i < 256; i++) {
             x.feed(0);
         }
-        due("just 257", x.decode(), 1);
-        feed(x, 1, 1, 1, 165);
+        due("just 256", x.decode(), 1);
+        feed(x, 1, 0, 1, 164);
         for (int i = 0; i < 200; i++) {
             x.feed(0);
         }
-        due("200 of 257", x.decode(), -1);
+        due("200 of 256", x.decode(), -1);
     }
 
     private static void anotherSum() {
@@ -366,7 +366,7 @@ public final class EdgeTest extends Check {
     }
 
     private static void aSample() {
-        sentence("int at(int x, int y, int channel): A sample");
+        sentence("A sample");
         MixedPredict x = new MixedPredict(16, 16, 8, 3);
         x.put(15, 0, 0, 11);
         x.put(0, 15, 0, 22);

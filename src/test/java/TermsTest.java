@@ -1,3 +1,5 @@
+import java.util.Arrays;
+
 /** The document's "What it is", face and "Terms": for each sentence that names an edge, a test of its own. */
 public final class TermsTest extends Check {
     private static final int MOST_CALLS = 512;
@@ -175,6 +177,22 @@ public final class TermsTest extends Check {
         for (int[] t : tiles) {
             due("of " + t[0] + " by " + t[1], new MixedPredict(t[0], t[1], 8, 1).told(0), t[2]);
         }
+        int[] samples = new int[128];
+        for (int i = 0; i < 64; i++) {
+            samples[i] = i / 5;
+            samples[64 + i] = 15 - i / 7;
+        }
+        MixedPredict lower = picture(8, 16, 4, 1, samples);
+        MixedPredict upperAlone = picture(8, 8, 4, 1, Arrays.copyOf(samples, 64));
+        MixedPredict lowerAlone = picture(8, 8, 4, 1, Arrays.copyOfRange(samples, 64, 128));
+        int first = upperAlone.encode();
+        due("both are by interval", lower.encode(), first + lowerAlone.encode());
+        for (int i = 0; i < lower.told(1); i++) {
+            int want = i < first ? upperAlone.byteAt(i) : lowerAlone.byteAt(i - first);
+            due("as if each were alone, byte " + i, lower.byteAt(i), want);
+        }
+        due("neither is as it is", lower.plain(0) || lower.plain(1), false);
+        readAgain(lower, samples);
     }
 
     /** All four tiles as they are: 64, 8, 8 and 1 samples. */
@@ -246,7 +264,7 @@ public final class TermsTest extends Check {
     }
 
     private static void noneToTheLeft() {
-        sentence("a to the left; MID, where there is none in the tile");
+        sentence("a to the left, .. MID, where there is none in the tile");
         MixedPredict x = numbered();
         due("at the picture's left edge", x.predicted(0, 3, 0, 0), 128);
         due("at the tile's left edge", x.predicted(8, 3, 0, 0), 128);
@@ -256,7 +274,7 @@ public final class TermsTest extends Check {
     }
 
     private static void noneAbove() {
-        sentence("b above; MID, where there is none in the tile");
+        sentence("b above, .. MID, where there is none in the tile");
         MixedPredict x = numbered();
         due("at the picture's upper edge", x.predicted(3, 0, 0, 1), 128);
         due("at the tile's upper edge", x.predicted(3, 8, 0, 1), 128);
@@ -266,7 +284,7 @@ public final class TermsTest extends Check {
     }
 
     private static void noneAboveTheLeft() {
-        sentence("c above a; MID, where there is none in the tile");
+        sentence("c above a, .. MID, where there is none in the tile");
         MixedPredict x = numbered();
         due("at the picture's left edge", x.predicted(0, 3, 0, 2), 128);
         due("at the picture's upper edge", x.predicted(3, 0, 0, 2), 128);
@@ -768,6 +786,22 @@ public final class TermsTest extends Check {
         three.encode();
         codedTile("three at once", three, 1, 14, 93, 220, 216, 80, 107, 169, 74, 0, 0, 35, 150, 212, 153, 158);
         readAgain(three, samples);
+        fourBytesPutOut();
+    }
+
+    /** LOW .. HIGH lies around 01000000 until it is that alone, and then all four go. */
+    private static void fourBytesPutOut() {
+        int[] samples = {0, 3, 0, 3, 1, 3, 1, 0, 1, 1, 1, 0, 1, 1, 2, 2, 0, 0, 2, 1, 0, 2, 2, 3};
+        MixedPredict x = new MixedPredict(8, 3, 2, 1);
+        feedTile(x, 1, 1, 0, 0, 0, 0xa7, 0x35, 0x5e, 0x91);
+        due("four at once are read", x.decode(), 24);
+        samples("four at once", x, samples);
+        x.encode();
+        codedTile("four at once", x, 1, 1, 0, 0, 0, 167, 52, 183);
+        readAgain(x, samples);
+        MixedPredict last = picture(8, 2, 2, 1, Arrays.copyOf(samples, 16));
+        last.encode();
+        codedTile("four at once, behind the last bit", last, 1, 1, 0, 0, 0, 0, 0);
     }
 
     private static void readAgain(MixedPredict x, int... samples) {
@@ -795,7 +829,7 @@ public final class TermsTest extends Check {
     }
 
     private static void tileByInterval() {
-        sentence("1, how many follow behind the sum (low byte, high byte), the SUM, what was put out");
+        sentence("1, how many follow behind the sum (low byte, high byte), the SUM .., what was put out");
         MixedPredict x = new MixedPredict(4, 1, 1, 1);
         x.paint(1, 0);
         x.encode();
