@@ -40,6 +40,9 @@ public final class FaceTest {
     private static final String[] RULED_OUT = {"\\bpackage\\b", "\\bcatch\\b", "\\btry\\b", "\\bfinally\\b", "->", "::",
         "@", "\\bsynchronized\\b", "\\bassert\\b", "\\w+Exact\\b", "\\bvolatile\\b", "\\bSystem\\.(?!arraycopy)",
         "\\bThread\\b", "\\bRandom\\b", "\\bnative\\b", "static \\{"};
+    private static final Set<String> OTHERS_TYPES = Set.of("Arrays", "Math", "IndexOutOfBoundsException",
+            "IllegalArgumentException", "UnsupportedOperationException");
+    private static final Set<String> OTHERS_METHODS = Set.of("Arrays.fill", "Math.abs", "Math.max", "Math.min");
     private static final int LONGEST_METHOD = 60;
     private static final int MOST_CLASSES = 12;
     private static final int MOST_FIELDS = 20;
@@ -119,6 +122,7 @@ public final class FaceTest {
         while (imports.find()) {
             due("import " + imports.group(1), imports.group(1).equals("java.util.Arrays"));
         }
+        library(bare);
         due("signs 1 to 127", source.chars().allMatch(c -> c > 0 && c < 128));
         int begin = 0;
         String[] lines = source.split("\n");
@@ -129,6 +133,21 @@ public final class FaceTest {
             if (lines[i].matches(" {4,8}}") && !lines[begin].contains(" class ")) {
                 due("the method at line " + (begin + 1) + " is short", i - begin < LONGEST_METHOD);
             }
+        }
+    }
+
+    private static void library(String bare) {
+        Set<String> own = Stream.of(MixedPredict.class.getDeclaredClasses()).map(Class::getSimpleName)
+                .collect(Collectors.toCollection(TreeSet::new));
+        own.add("MixedPredict");
+        // A name of a type has a small letter, a constant's has none.
+        Matcher types = Pattern.compile("\\b[A-Z]\\w*[a-z]\\w*").matcher(bare);
+        while (types.find()) {
+            due("type " + types.group(), own.contains(types.group()) || OTHERS_TYPES.contains(types.group()));
+        }
+        Matcher methods = Pattern.compile("\\b(Arrays|Math)\\.\\w+").matcher(bare);
+        while (methods.find()) {
+            due("method " + methods.group(), OTHERS_METHODS.contains(methods.group()));
         }
     }
 
